@@ -1,0 +1,173 @@
+/** Promises 13 to 15: undo, keep, restore. */
+public final class HistoryTest {
+    public static void main(String[] args) {
+        undoing();
+        everythingIsUndone();
+        snapshots();
+        restoringIsAnAct();
+        everythingIsRestored();
+        Due.end();
+    }
+
+    private static void undoing() {
+        MillComplaints desk = new MillComplaints();
+        Due.due("undo: empty", desk.undo(), -5);
+        for (int wind = 4; wind <= 9; wind++) {
+            Due.due("states", desk.count(10), Math.min(4, wind - 4));
+            desk.wind(0, 0, wind);
+        }
+        Due.due("states", desk.count(10), 4);
+        for (int left = 3; left >= 0; left--) {
+            Due.due("undo", desk.undo(), left);
+            Due.due("the wind before", desk.wind(0, 0, left + 5), -5);
+            Due.due("states", desk.count(10), left);
+        }
+        Due.due("undo: empty, the oldest were dropped", desk.undo(), -5);
+        Due.due("the wind stays", desk.wind(0, 0, 5), -5);
+        for (int round = 0; round < 7; round++) {
+            desk.wind(1, 1, 1);
+            desk.wind(2, 2, 1);
+            desk.wind(3, 3, 1);
+            Due.due("states", desk.count(10), 3);
+            Due.due("undo", desk.undo(), 2);
+            Due.due("undo", desk.undo(), 1);
+            Due.due("the wind at 2", desk.wind(2, 2, 3), -5);
+            Due.due("the wind at 1", desk.wind(1, 1, 1), -5);
+            Due.due("undo", desk.undo(), 0);
+            Due.due("the wind at 1", desk.wind(1, 1, 3), -5);
+        }
+    }
+
+    private static MillComplaints rich() {
+        MillComplaints desk = new MillComplaints();
+        desk.mill(2, 30);
+        desk.mill(5, 60);
+        desk.house(31);
+        desk.house(43);
+        desk.set(0, 1);
+        desk.set(1, 0);
+        desk.set(2, 1);
+        desk.set(3, 2);
+        desk.wind(0, 3, 5);
+        desk.complain(0, 0, 0, 0);
+        desk.complain(0, 0, 0, 9);
+        desk.complain(1, 1, 0, 1);
+        desk.complain(1, 0, 1, 12);
+        desk.sue(0, 0, 0);
+        desk.vote(1, 1);
+        desk.wind(13, 13, 0);
+        return desk;
+    }
+
+    /** All that is told of a state, joined. */
+    private static String told(MillComplaints desk) {
+        StringBuilder told = new StringBuilder();
+        for (int what = 0; what <= 15; what++) {
+            if (what != 10 && what != 11) {
+                told.append(desk.count(what)).append(' ');
+            }
+        }
+        for (int mill = 0; mill < 4; mill++) {
+            for (int what = 0; what <= 5; what++) {
+                told.append(desk.millOf(mill, what)).append(' ');
+            }
+            told.append(desk.quietHours(mill)).append(' ');
+        }
+        for (int house = 0; house < 10; house++) {
+            for (int what = 0; what <= 5; what++) {
+                told.append(desk.houseOf(house, what)).append(' ');
+            }
+        }
+        for (int yard = 0; yard < 96; yard++) {
+            told.append(desk.yardOf(yard, 0)).append(desk.yardOf(yard, 1)).append(' ');
+        }
+        return told.toString();
+    }
+
+    private static void change(MillComplaints desk, int act) {
+        switch (act) {
+            case 0: desk.mill(1, 0); break;
+            case 1: desk.house(1); break;
+            case 2: desk.wind(0, 23, 9); break;
+            case 3: desk.set(0, 5); break;
+            case 4: desk.set(1, 5); break;
+            case 5: desk.set(2, 5); break;
+            case 6: desk.set(3, 5); break;
+            case 7: desk.complain(0, 0, 0, 20); break;
+            case 8: desk.complain(0, 0, 1, 20); break;
+            case 9: desk.sue(0, 0, 9); break;
+            case 10: desk.vote(0, 9); break;
+            default: Due.type(desk, "m3@l0;h@l1;w5=0;c00n21"); desk.doAll(); break;
+        }
+    }
+
+    private static void everythingIsUndone() {
+        for (int act = 0; act <= 11; act++) {
+            MillComplaints desk = rich();
+            String before = told(desk);
+            change(desk, act);
+            Due.due("act " + act + " changes", told(desk).equals(before) ? 1 : 0, 0);
+            Due.due("undo of act " + act, desk.undo(), 3);
+            Due.due("act " + act + " is undone", told(desk).equals(before) ? 1 : 0, 1);
+        }
+    }
+
+    private static void snapshots() {
+        MillComplaints desk = new MillComplaints();
+        Due.due("restore: none", desk.restore(), -5);
+        Due.due("no act", desk.count(10), 0);
+        Due.due("keep without houses", desk.keep(), 0);
+        Due.due("keep is no act", desk.count(10), 0);
+        desk.house(3);
+        desk.house(4);
+        Due.due("restore", desk.restore(), 0);
+        Due.due("houses", desk.count(1), 0);
+        Due.due("undo", desk.undo(), 2);
+        Due.due("houses", desk.count(1), 2);
+        Due.due("keep", desk.keep(), 2);
+        desk.house(5);
+        Due.due("restore", desk.restore(), 2);
+        Due.due("the snapshot stays", desk.restore(), 2);
+        desk.house(6);
+        Due.due("it is not changed by acts", desk.restore(), 2);
+        Due.due("yard 6", desk.yardOf(6, 1), -5);
+        Due.due("yard 4", desk.yardOf(4, 1), 1);
+    }
+
+    private static void restoringIsAnAct() {
+        MillComplaints desk = new MillComplaints();
+        desk.keep();
+        Due.due("restore", desk.restore(), 0);
+        Due.due("is recorded, also if nothing differs", desk.count(10), 1);
+        desk.type('h');
+        desk.house(0);
+        desk.house(1);
+        desk.house(2);
+        Due.due("restore", desk.restore(), 0);
+        Due.due("the text stays", desk.count(11), 1);
+        Due.due("the history stays, with one more", desk.count(10), 4);
+        Due.due("undo", desk.undo(), 3);
+        Due.due("houses", desk.count(1), 3);
+        Due.due("undo", desk.undo(), 2);
+        Due.due("the snapshot is not undone", desk.restore(), 0);
+        MillComplaints other = new MillComplaints();
+        other.house(0);
+        other.keep();
+        Due.due("undo ahead of keep", other.undo(), 0);
+        Due.due("the snapshot stays", other.restore(), 1);
+    }
+
+    private static void everythingIsRestored() {
+        for (int act = 0; act <= 11; act++) {
+            MillComplaints desk = rich();
+            String before = told(desk);
+            Due.due("keep", desk.keep(), 2);
+            change(desk, act);
+            String after = told(desk);
+            Due.due("restore", desk.restore(), 2);
+            Due.due("act " + act + " is gone", told(desk).equals(before) ? 1 : 0, 1);
+            desk.undo();
+            Due.due("act " + act + " is back", told(desk).equals(after) ? 1 : 0, 1);
+        }
+    }
+}
