@@ -337,8 +337,8 @@ public final class MillComplaints {
         int most = 0;
         for (int hour = 0; hour < HOURS; hour++) {
             int troubled = now.turns(mill, hour) ? now.troubledIfUntied(mill, hour) : 0;
-            boolean isWeaker = best != NONE && now.windAt(hour) < now.windAt(best);
-            if (troubled > most || troubled > 0 && troubled == most && isWeaker) {
+            boolean hasLessWind = best != NONE && now.windAt(hour) < now.windAt(best);
+            if (troubled > most || troubled == most && hasLessWind) {
                 most = troubled;
                 best = hour;
             }

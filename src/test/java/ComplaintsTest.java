@@ -11,6 +11,7 @@ public final class ComplaintsTest {
         votes();
         votesThatChangeNothing();
         votesByShadow();
+        votesClearAllComplaints();
         Due.end();
     }
 
@@ -114,28 +115,24 @@ public final class ComplaintsTest {
         desk.house(Due.yard(4, 4));
         Due.due("heard", desk.complain(0, 0, 0, 0), 1);
         Due.due("it stands", desk.complain(0, 0, 0, 0), -12);
-        Due.due("heard", desk.complain(0, 0, 1, 6), 1);
-        desk.undo();
-        desk.set(2, 1);
-        desk.undo();
-        Due.due("states", desk.count(10), 3);
-        Due.due("vain", desk.houseOf(0, 1), 0);
-        desk.undo();
-        desk.set(2, 1);
-        Due.due("heard", desk.complain(0, 0, 1, 6), 1);
-        Due.due("states", desk.count(10), 4);
-        desk.undo();
-        desk.complain(0, 0, 1, 7);
-        desk.undo();
-        Due.due("states", desk.count(10), 3);
-        desk.complain(0, 0, 0, 1);
-        desk.undo();
-        desk.complain(0, 0, 0, 1);
-        Due.due("tied", desk.complain(0, 0, 1, 1), -13);
-        desk.undo();
         Due.due("no act", desk.count(10), 3);
         Due.due("not in vain", desk.houseOf(0, 1), 0);
         Due.due("not counted", desk.count(3), 0);
+        tiedSailsRefuse();
+    }
+
+    private static void tiedSailsRefuse() {
+        MillComplaints desk = new MillComplaints();
+        Due.type(desk, "m3@f4;h@e4;h@f3");
+        desk.doAll();
+        desk.set(2, 1);
+        desk.complain(0, 0, 0, 0);
+        Due.due("states", desk.count(10), 3);
+        Due.due("tied", desk.complain(1, 0, 0, 0), -13);
+        Due.due("no act", desk.count(10), 3);
+        Due.due("not in vain", desk.houseOf(1, 1), 0);
+        Due.due("not counted", desk.count(3), 0);
+        Due.due("not heard", desk.count(2), 1);
     }
 
     private static void unknownComplaints() {
@@ -308,5 +305,28 @@ public final class ComplaintsTest {
         Due.due("the troubled one is against it", desk.vote(0, 9), 2);
         Due.due("2 of 3 are enough", desk.millOf(0, 2), 0);
         Due.due("gone", desk.houseOf(0, 3), 0);
+    }
+
+    private static void votesClearAllComplaints() {
+        MillComplaints desk = village();
+        desk.mill(3, Due.yard(5, 5));
+        desk.wind(18, 18, 4);
+        desk.set(2, 4);
+        Due.due("0 by noise", desk.complain(0, 0, 0, 18), 1);
+        Due.due("1 by noise", desk.complain(1, 0, 0, 18), 2);
+        Due.due("2 by noise", desk.complain(2, 0, 0, 18), 3);
+        Due.due("against another mill", desk.complain(2, 1, 0, 18), 1);
+        Due.due("for another hour", desk.complain(2, 0, 1, 17), 1);
+        Due.due("2 by shadow", desk.complain(2, 0, 1, 18), 4);
+        desk.set(0, 20);
+        Due.due("vote", desk.vote(0, 18), 2);
+        Due.due("untied", desk.millOf(0, 2), 0);
+        Due.due("standing of 0", desk.houseOf(0, 3), 0);
+        Due.due("standing of 1", desk.houseOf(1, 3), 0);
+        Due.due("standing of 2: for the other mill, and the other hour", desk.houseOf(2, 3), 2);
+        Due.due("points of the mill", desk.millOf(0, 5), 1);
+        Due.due("points of the other one", desk.millOf(1, 5), 1);
+        desk.set(0, 6);
+        Due.due("the points of the hour begin anew", desk.complain(1, 0, 0, 18), 1);
     }
 }

@@ -6,6 +6,7 @@ public final class HistoryTest {
         snapshots();
         restoringIsAnAct();
         everythingIsRestored();
+        otherMapsComeBack();
         Due.end();
     }
 
@@ -155,6 +156,25 @@ public final class HistoryTest {
         other.keep();
         Due.due("undo ahead of keep", other.undo(), 0);
         Due.due("the snapshot stays", other.restore(), 1);
+    }
+
+    private static void otherMapsComeBack() {
+        MillComplaints desk = new MillComplaints();
+        desk.mill(1, 5);
+        desk.house(6);
+        desk.keep();
+        desk.undo();
+        desk.undo();
+        desk.mill(2, 50);
+        desk.house(60);
+        Due.due("restore", desk.restore(), 1);
+        Due.due("height of the snapshot", desk.millOf(0, 0), 1);
+        Due.due("yard of the snapshot's mill", desk.millOf(0, 1), 5);
+        Due.due("yard of the snapshot's house", desk.houseOf(0, 0), 6);
+        Due.due("undo", desk.undo(), 2);
+        Due.due("height of the map before", desk.millOf(0, 0), 2);
+        Due.due("yard of the mill before", desk.millOf(0, 1), 50);
+        Due.due("yard of the house before", desk.houseOf(0, 0), 60);
     }
 
     private static void everythingIsRestored() {

@@ -152,6 +152,8 @@ public final class MapAndWindsTest {
         Due.due("set(4, 5)", desk.set(4, 5), -2);
         Due.due("set(MAX, 5)", desk.set(Integer.MAX_VALUE, 5), -2);
         Due.due("set(-1, 500)", desk.set(-1, 500), -2);
+        Due.due("set(-1, 0)", desk.set(-1, 0), -2);
+        Due.due("set(4, 0)", desk.set(4, 0), -2);
     }
 
     private static void settingsLeaveSailsTied() {

@@ -5,6 +5,7 @@ public final class WouldBeTest {
         loud();
         best();
         bestOfSeveral();
+        bestForOneHouse();
         ifVoted();
         Due.end();
     }
@@ -115,6 +116,18 @@ public final class WouldBeTest {
         desk.wind(8, 8, 1);
         desk.wind(13, 13, 1);
         Due.due("it has to turn", desk.bestTied(0), 9);
+    }
+
+    private static void bestForOneHouse() {
+        MillComplaints desk = new MillComplaints();
+        desk.mill(5, Due.yard(5, 4));
+        desk.house(Due.yard(4, 4));
+        Due.due("the lowest hour", desk.bestTied(0), 0);
+        desk.wind(7, 7, 2);
+        desk.wind(9, 9, 2);
+        Due.due("the least wind, by shadow", desk.bestTied(0), 7);
+        desk.wind(0, 23, 0);
+        Due.due("it never turns", desk.bestTied(0), -5);
     }
 
     private static void ifVoted() {
