@@ -19,6 +19,13 @@ final class Due {
         }
     }
 
+    static void same(String what, String got, String want) {
+        if (!got.equals(want)) {
+            wrong++;
+            System.out.println(what + ": told is " + got + ", due is " + want);
+        }
+    }
+
     static void type(MillComplaints desk, String text) {
         desk.clearText();
         for (int index = 0; index < text.length(); index++) {

@@ -60,31 +60,6 @@ public final class HistoryTest {
         return desk;
     }
 
-    /** All that is told of a state, joined. */
-    private static String told(MillComplaints desk) {
-        StringBuilder told = new StringBuilder();
-        for (int what = 0; what <= 15; what++) {
-            if (what != 10 && what != 11) {
-                told.append(desk.count(what)).append(' ');
-            }
-        }
-        for (int mill = 0; mill < 4; mill++) {
-            for (int what = 0; what <= 5; what++) {
-                told.append(desk.millOf(mill, what)).append(' ');
-            }
-            told.append(desk.quietHours(mill)).append(' ');
-        }
-        for (int house = 0; house < 10; house++) {
-            for (int what = 0; what <= 5; what++) {
-                told.append(desk.houseOf(house, what)).append(' ');
-            }
-        }
-        for (int yard = 0; yard < 96; yard++) {
-            told.append(desk.yardOf(yard, 0)).append(desk.yardOf(yard, 1)).append(' ');
-        }
-        return told.toString();
-    }
-
     private static void change(MillComplaints desk, int act) {
         switch (act) {
             case 0: desk.mill(1, 0); break;
@@ -103,13 +78,15 @@ public final class HistoryTest {
     }
 
     private static void everythingIsUndone() {
+        String before = Told.of(rich());
         for (int act = 0; act <= 11; act++) {
-            MillComplaints desk = rich();
-            String before = told(desk);
-            change(desk, act);
-            Due.due("act " + act + " changes", told(desk).equals(before) ? 1 : 0, 0);
-            Due.due("undo of act " + act, desk.undo(), 3);
-            Due.due("act " + act + " is undone", told(desk).equals(before) ? 1 : 0, 1);
+            MillComplaints changed = rich();
+            change(changed, act);
+            Due.due("act " + act + " changes", Told.of(changed).equals(before) ? 1 : 0, 0);
+            MillComplaints undone = rich();
+            change(undone, act);
+            Due.due("undo of act " + act, undone.undo(), 3);
+            Due.same("act " + act + " is undone", Told.of(undone), before);
         }
     }
 
@@ -178,16 +155,22 @@ public final class HistoryTest {
     }
 
     private static void everythingIsRestored() {
+        String before = Told.of(rich());
         for (int act = 0; act <= 11; act++) {
-            MillComplaints desk = rich();
-            String before = told(desk);
-            Due.due("keep", desk.keep(), 2);
-            change(desk, act);
-            String after = told(desk);
-            Due.due("restore", desk.restore(), 2);
-            Due.due("act " + act + " is gone", told(desk).equals(before) ? 1 : 0, 1);
-            desk.undo();
-            Due.due("act " + act + " is back", told(desk).equals(after) ? 1 : 0, 1);
+            MillComplaints changed = rich();
+            change(changed, act);
+            Due.same("act " + act + " is gone", Told.of(changedAndRestored(act)), before);
+            MillComplaints undone = changedAndRestored(act);
+            Due.due("undo", undone.undo(), 3);
+            Due.same("act " + act + " is back", Told.of(undone), Told.of(changed));
         }
+    }
+
+    private static MillComplaints changedAndRestored(int act) {
+        MillComplaints desk = rich();
+        Due.due("keep", desk.keep(), 2);
+        change(desk, act);
+        Due.due("restore", desk.restore(), 2);
+        return desk;
     }
 }

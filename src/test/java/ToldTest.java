@@ -151,17 +151,21 @@ public final class ToldTest {
             {17, 1, 0, 3, 5, 8, 10, 13}, {18, 1, 0, 3, 6, 9, 12, 15}};
         int[][] places = {{5, 5}, {0, 0}, {11, 7}, {11, 0}};
         for (int height = 1; height <= 5; height++) {
-            MillComplaints desk = new MillComplaints();
-            for (int[] place : places) {
-                desk.mill(height, Due.yard(place[0], place[1]));
-            }
             for (int mill = 0; mill < places.length; mill++) {
                 for (int hour = 0; hour < 24; hour++) {
                     int[] row = hour >= 6 && hour <= 18 ? rows[hour - 6] : new int[8];
-                    shadowOfAnHour(desk, mill, hour, places[mill], row[1], row[2], row[2 + height]);
+                    shadowOfAnHour(withMills(height, places), mill, hour, places[mill], row[1], row[2], row[2 + height]);
                 }
             }
         }
+    }
+
+    private static MillComplaints withMills(int height, int[][] places) {
+        MillComplaints desk = new MillComplaints();
+        for (int[] place : places) {
+            desk.mill(height, Due.yard(place[0], place[1]));
+        }
+        return desk;
     }
 
     private static void shadowOfAnHour(MillComplaints desk, int mill, int hour, int[] place, int east, int south, int length) {
