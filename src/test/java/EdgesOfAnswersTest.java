@@ -10,6 +10,7 @@ public final class EdgesOfAnswersTest {
         noSuchHouse();
         whatOfAHouse();
         complaintsThatStandAgainstAllMills();
+        eachHouseAndMillOfAFullMapByItself();
         someMillIsEnough();
         whatIsCounted();
         eachCountByItself();
@@ -149,6 +150,36 @@ public final class EdgesOfAnswersTest {
         Due.due("standing", desk.houseOf(0, 3), 8);
         Due.due("a refused one does not stand", desk.complain(0, 0, 0, 12), -15);
         Due.due("standing", desk.houseOf(0, 3), 8);
+    }
+
+    /** "at most 4 mills", "at most 10 houses": with all of them, each has its own complaints and points */
+    private static void eachHouseAndMillOfAFullMapByItself() {
+        MillComplaints desk = new MillComplaints();
+        for (int mill = 0; mill < 4; mill++) {
+            desk.mill(1, Due.yard(mill, 0));
+        }
+        for (int house = 0; house < 10; house++) {
+            desk.house(Due.yard(house, 1));
+        }
+        desk.set(2, 9);
+        desk.wind(0, 5, 9);
+        for (int house = 0; house < 10; house++) {
+            for (int mill = 0; mill < 4; mill++) {
+                for (int hour = 0; hour < (house + mill) % 3; hour++) {
+                    Due.due("why of the house " + house, desk.why(house, mill, 0, hour), 0);
+                    desk.complain(house, mill, 0, hour);
+                }
+            }
+        }
+        int[] standing = {3, 4, 5, 3, 4, 5, 3, 4, 5, 3};
+        for (int house = 0; house < 10; house++) {
+            Due.due("standing of the house " + house, desk.houseOf(house, 3), standing[house]);
+        }
+        int[] points = {9, 10, 11, 9};
+        for (int mill = 0; mill < 4; mill++) {
+            Due.due("points of the mill " + mill, desk.millOf(mill, 5), points[mill]);
+        }
+        Due.due("heard", desk.count(2), 39);
     }
 
     /** "hours in which some mill troubles it": one by itself; noises are not added up */
