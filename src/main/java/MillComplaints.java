@@ -526,7 +526,7 @@ public final class MillComplaints {
         }
 
         private static int eastward(int hour) {
-            return Integer.compare(hour, NOON);
+            return hour < NOON ? -1 : hour > NOON ? 1 : 0;
         }
 
         private static int southward(int hour) {
@@ -720,10 +720,11 @@ public final class MillComplaints {
         // ---- noise, shadows
 
         private int noiseIfUntied(int mill, int yard, int hour) {
-            if (!blows(hour)) {
+            int wind = windAt(hour);
+            if (wind < LEAST_TURNING_WIND) {
                 return 0;
             }
-            return Math.max(0, 2 * windAt(hour) - distance(at(millYards, mill), yard));
+            return Math.max(0, 2 * wind - distance(at(millYards, mill), yard));
         }
 
         int noiseIn(int mill, int yard, int hour) {

@@ -4,10 +4,13 @@ public final class ComplaintsTest {
         heard();
         reasonsInTheirOrder();
         refusalsThatCount();
+        refusalsThatDoNot();
+        tiedSailsRefuse();
         unknownComplaints();
         suits();
         suitsThatAreNotWon();
         suitsThatLeaveSailsTied();
+        suitsBar();
         votes();
         votesThatChangeNothing();
         votesByShadow();
@@ -106,7 +109,6 @@ public final class ComplaintsTest {
         Due.due("no act", desk.count(10), 3);
         Due.due("not counted", desk.count(3), 3);
         Due.due("not in vain", desk.houseOf(0, 1), 3);
-        refusalsThatDoNot();
     }
 
     private static void refusalsThatDoNot() {
@@ -118,7 +120,6 @@ public final class ComplaintsTest {
         Due.due("no act", desk.count(10), 3);
         Due.due("not in vain", desk.houseOf(0, 1), 0);
         Due.due("not counted", desk.count(3), 0);
-        tiedSailsRefuse();
     }
 
     private static void tiedSailsRefuse() {
@@ -225,7 +226,6 @@ public final class ComplaintsTest {
         Due.due("suit against 0", desk.sue(0, 0, 0), 1);
         Due.due("the complaint for another hour stands", desk.houseOf(0, 3), 1);
         Due.due("untied", desk.millOf(0, 2), 0);
-        suitsBar();
     }
 
     private static void suitsBar() {

@@ -6,6 +6,7 @@ public final class TextsTest {
         faults();
         everySignAtEveryPlace();
         doesAllParts();
+        refusedParts();
         doesAllOrNothing();
         Due.end();
     }
@@ -120,7 +121,6 @@ public final class TextsTest {
         for (int[] row : winds) {
             Due.due("the wind at " + row[0], desk.wind(row[0], row[0], row[1]), -5);
         }
-        refusedParts();
     }
 
     private static void refusedParts() {
